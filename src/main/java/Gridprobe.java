@@ -517,7 +517,7 @@ public final class Gridprobe {
             row[0] = cell;
             int count = 1;
             int inRow = 1 << cell;
-            for (int i = 0; i < count; i++) {
+            for (int i = 0; i < count && i < CELLS; i++) {
                 for (int reader = 0; reader < CELLS; reader++) {
                     if (count < CELLS && has(readCells[reader], row[i]) && !has(inRow, reader)) {
                         row[count] = reader;

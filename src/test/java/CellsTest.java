@@ -32,6 +32,7 @@ public final class CellsTest {
         operation(3, -7, 2, -3);
         operation(3, 7, -2, -3);
         operation(3, 0, 5, 0);
+        operation(3, -9, 1, -9);
         operation(3, LEAST_INT, -1, LEAST_INT);
         operation(4, 3, -4, -4);
         operation(4, -5, -4, -5);
@@ -315,5 +316,4 @@ public final class CellsTest {
         Checks.draft(x, "n1 c7");
         return x;
     }
-
 }

@@ -300,6 +300,12 @@ public final class TrialTest {
         CHECKS.due("telling changes no FAILED", x.verdict(2), Gridprobe.FAILED);
         CHECKS.due("a trial does", x.attempt(2, 0, 20), Gridprobe.NONE);
         CHECKS.due("PASSED", x.verdict(2), Gridprobe.PASSED);
+        Gridprobe turned = new Gridprobe();
+        turned.input(0, 0, 9);
+        turned.tell(0, Gridprobe.MOST, 8);
+        turned.attempt(0, 0, 1);
+        turned.attempt(0, 0, 2);
+        CHECKS.due("FAILED is PASSED no more", turned.input(0, 0, 9), 0);
     }
 
     private static void attemptRefuses() {
