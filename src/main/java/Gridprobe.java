@@ -270,7 +270,7 @@ public final class Gridprobe {
     }
 
     public int unlockedAt(int index) throws IndexOutOfBoundsException {
-        if (index < 0 || index >= desk.unlockedCount) {
+        if (index < 0 || index >= desk.unlockedCount || index >= CELLS) {
             throw new IndexOutOfBoundsException("not so many cells were unlocked");
         }
         return desk.row[index];
@@ -335,7 +335,7 @@ public final class Gridprobe {
 
         int readSet() {
             int set = 0;
-            for (int i = 0; i < parts; i++) {
+            for (int i = 0; i < parts && i < MOST_PARTS; i++) {
                 if (kinds[i] == CELL) {
                     set |= 1 << numbers[i];
                 }
@@ -345,7 +345,7 @@ public final class Gridprobe {
 
         long reckon(long[] values) {
             int depth = 0;
-            for (int i = 0; i < parts; i++) {
+            for (int i = 0; i < parts && i < MOST_PARTS; i++) {
                 long value;
                 if (kinds[i] >= OPERATIONS) {
                     value = leaf(kinds[i], numbers[i], values);
@@ -556,7 +556,7 @@ public final class Gridprobe {
         }
 
         boolean holds(int at, Sheet sheet, int cell, int[] row) {
-            if (at < 0 || at >= count) {
+            if (at < 0 || at >= count || at >= MOST_PROPERTIES) {
                 return true;
             }
             long value = sheet.reckon(cell, row);

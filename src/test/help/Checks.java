@@ -22,6 +22,11 @@ final class Checks {
         }
     }
 
+    /** The call has to answer the number, or to throw the exception of the name, that is due. */
+    void dueOutcome(String what, Gridprobe x, ToLongFunction<Gridprobe> call, String want) {
+        dueText(what, outcome(x, call), want);
+    }
+
     /** The call on a built object has to throw just this, and to leave all as a twin without the call has it. */
     void dueThrows(String what, Class<?> want, Supplier<Gridprobe> build, Consumer<Gridprobe> call) {
         Gridprobe called = build.get();
@@ -31,6 +36,8 @@ final class Checks {
         } catch (RuntimeException e) {
             if (e.getClass() != want) {
                 tellWrong(what + " threw " + e.getClass().getSimpleName() + ", due is " + want.getSimpleName());
+            } else if ("/ by zero".equals(e.getMessage())) {
+                tellWrong(what + " let the machine throw");
             }
         }
         dueText(what + ": what is asked after it", asked(called), asked(build.get()));
