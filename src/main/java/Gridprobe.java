@@ -152,11 +152,17 @@ public final class Gridprobe {
         }
         boolean wasFailed = has(trials.failed, cell);
         int lockedAhead = lockedCells();
-        int failedRow = trials.run(sheet, told[cell], cell, seed, rows);
-        if (wasFailed && failedRow == NONE) {
+        int failedRow = trials.findFailedRow(sheet, told[cell], cell, seed, rows);
+        if (failedRow != NONE) {
+            int times = trials.makeSmaller(sheet, told[cell], cell);
+            trials.keepFailed(cell, times, sheet.inputs);
+            return failedRow;
+        }
+        trials.keepPassed(cell);
+        if (wasFailed) {
             desk.keepUnlocked(sheet, cell, lockedAhead & ~lockedCells());
         }
-        return failedRow;
+        return NONE;
     }
 
     public int waive(int cell, int owner, int days)
@@ -377,21 +383,18 @@ public final class Gridprobe {
                 case 0: return first + second;
                 case 1: return first - second;
                 case 2: return first * second;
-                case 3: return second == 0 ? FAULT : divide(first, second);
-                case 4: return Math.min(first, second);
-                case 5: return Math.max(first, second);
+                // Divided as ints, so that the one quotient that is too great goes round.
+                case 3: return second == 0 ? FAULT : first / second;
+                case 4: return first < second ? first : second;
+                case 5: return first > second ? first : second;
                 case 6: return first < second ? 1 : 0;
                 case 7: return first == second ? 1 : 0;
                 case 8: return first & second;
                 case 9: return first | second;
-                case 10: return first << Math.floorMod(second, 32);
-                default: return first >> Math.floorMod(second, 32);
+                // The last five bits are the remainder by 32, 0 or more.
+                case 10: return first << (second & 31);
+                default: return first >> (second & 31);
             }
-        }
-
-        // In int, so that the one quotient that is too great goes round.
-        private static int divide(int first, int second) {
-            return second == 0 ? 0 : first / second;
         }
     }
 
@@ -568,11 +571,8 @@ public final class Gridprobe {
                 case LEAST: return value >= n;
                 case MOST: return value <= n;
                 case SAME: return value == sheet.reckon(n, row);
-                default: return rises(value, n, sheet, cell, row);
+                default: break;
             }
-        }
-
-        private static boolean rises(long value, int n, Sheet sheet, int cell, int[] row) {
             if (!sheet.isInput(n) || row[n] >= sheet.highs[n]) {
                 return true;
             }
@@ -593,6 +593,7 @@ public final class Gridprobe {
         int passed;
         int failed;
         int drawn;
+        int broken;
 
         int untry(int cells) {
             int changed = passed & cells;
@@ -600,22 +601,25 @@ public final class Gridprobe {
             return Integer.bitCount(changed);
         }
 
-        int run(Sheet sheet, PropertyList told, int cell, int seed, int rows) {
+        /** Leaves the row that failed in row, and the property by which it did in broken. */
+        int findFailedRow(Sheet sheet, PropertyList told, int cell, int seed, int rows) {
             drawn = seed;
             for (int at = 0; at < rows; at++) {
                 fillRow(at, sheet);
-                int broken = told.firstBroken(sheet, cell, row);
+                broken = told.firstBroken(sheet, cell, row);
                 if (broken != NONE) {
-                    keepFailed(cell, broken, makeSmaller(broken, told, sheet, cell), sheet.inputs);
                     return at;
                 }
             }
-            failed &= ~(1 << cell);
-            passed |= 1 << cell;
             return NONE;
         }
 
-        private void keepFailed(int cell, int broken, int times, int inputs) {
+        void keepPassed(int cell) {
+            failed &= ~(1 << cell);
+            passed |= 1 << cell;
+        }
+
+        void keepFailed(int cell, int times, int inputs) {
             passed &= ~(1 << cell);
             failed |= 1 << cell;
             failedBy[cell] = broken;
@@ -644,16 +648,17 @@ public final class Gridprobe {
             return size < 1 ? low : low + drawn % size;
         }
 
-        private int makeSmaller(int broken, PropertyList told, Sheet sheet, int cell) {
+        /** Makes the row that failed smaller; returns how many times. */
+        int makeSmaller(Sheet sheet, PropertyList told, int cell) {
             for (int times = 0; times < MOST_TIMES_SMALLER; times++) {
-                if (!stepSmaller(broken, told, sheet, cell)) {
+                if (!stepSmaller(sheet, told, cell)) {
                     return times;
                 }
             }
             return MOST_TIMES_SMALLER;
         }
 
-        private boolean stepSmaller(int broken, PropertyList told, Sheet sheet, int cell) {
+        private boolean stepSmaller(Sheet sheet, PropertyList told, int cell) {
             for (int input = 0; input < CELLS; input++) {
                 if (!sheet.isInput(input)) {
                     continue;
